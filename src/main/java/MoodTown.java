@@ -41,8 +41,8 @@ public final class MoodTown {
     private final Walk walk;
     private final Search search;
     private final Town[] images;
-    private final boolean[] kept;
     private final Sheet[] sheets;
+    private int keptBits;
     private int latestTorn;
 
     public MoodTown() {
@@ -52,7 +52,6 @@ public final class MoodTown {
         walk = new Walk();
         search = new Search(walk);
         images = new Town[IMAGES];
-        kept = new boolean[IMAGES];
         for (int k = 0; k < IMAGES; k++) {
             images[k] = new Town();
         }
@@ -87,7 +86,7 @@ public final class MoodTown {
             return FAULT_ANSWER - telling.faultPlace;
         }
         town.copyFrom(telling.told);
-        Arrays.fill(kept, false);
+        keptBits = 0;
         return telling.lines;
     }
 
@@ -116,7 +115,7 @@ public final class MoodTown {
         switch (what) {
             case 0: return town.cells[p];
             case 1: return town.moods[p];
-            case 2: return town.still[p] ? 1 : 0;
+            case 2: return town.still[p];
             case 3: return town.goals[p];
             default: return BAD;
         }
@@ -150,8 +149,8 @@ public final class MoodTown {
         if (!town.hasOne(p)) {
             return BAD;
         }
-        int was = town.still[p] ? 1 : 0;
-        town.still[p] = is;
+        int was = town.still[p];
+        town.still[p] = is ? 1 : 0;
         return was;
     }
 
@@ -380,9 +379,9 @@ public final class MoodTown {
         if (k < 0 || k >= IMAGES) {
             return BAD;
         }
-        int was = kept[k] ? 1 : 0;
+        int was = (keptBits >> k) & 1;
         images[k].copyFrom(town);
-        kept[k] = true;
+        keptBits |= 1 << k;
         return was;
     }
 
@@ -390,7 +389,7 @@ public final class MoodTown {
         if (k < 0 || k >= IMAGES) {
             return BAD;
         }
-        if (!kept[k]) {
+        if (((keptBits >> k) & 1) == 0) {
             return STATE;
         }
         town.copyFrom(images[k]);
@@ -452,7 +451,7 @@ public final class MoodTown {
             case 0: return town.atGoals();
             case 1: return town.withGoals();
             case 2: return town.seen;
-            case 3: return (kept[0] ? 1 : 0) + (kept[1] ? 1 : 0);
+            case 3: return Integer.bitCount(keptBits);
             case 4: return tape.length;
             case 5: return sheets[0].isNothing() ? NONE : sheets[0].size;
             case 6: return town.withoutMood();
@@ -525,7 +524,7 @@ public final class MoodTown {
         int seen;
         final int[] cells;
         final int[] moods;
-        final boolean[] still;
+        final int[] still;
         final int[] goals;
         final int[] pulls;
         final int[] seenOnes;
@@ -534,7 +533,7 @@ public final class MoodTown {
         Town() {
             cells = new int[MOST_PEOPLE + 1];
             moods = new int[MOST_PEOPLE + 1];
-            still = new boolean[MOST_PEOPLE + 1];
+            still = new int[MOST_PEOPLE + 1];
             goals = new int[MOST_PEOPLE + 1];
             pulls = new int[MOST_FAR + 1];
             seenOnes = new int[MOST_SEEN];
@@ -623,7 +622,7 @@ public final class MoodTown {
             return Math.abs(columnOf(cells[a]) - columnOf(cells[b])) + Math.abs(rowOf(cells[a]) - rowOf(cells[b]));
         }
 
-        void addOne(int c, int m, boolean isStill) {
+        void addOne(int c, int m, int isStill) {
             if (people < cells.length) {
                 cells[people] = c;
                 moods[people] = m;
@@ -740,7 +739,7 @@ public final class MoodTown {
                 }
             }
             for (int p = 0; p < town.people; p++) {
-                ways[p] = town.still[p] ? NOWHERE : wayBy(easts[p], souths[p]);
+                ways[p] = town.still[p] != 0 ? NOWHERE : wayBy(easts[p], souths[p]);
             }
         }
 
@@ -985,7 +984,7 @@ public final class MoodTown {
                 if (now.isFree(c)) {
                     trial.copyFrom(now);
                     trial.goals[now.people] = NONE;
-                    trial.addOne(c, m, true);
+                    trial.addOne(c, m, 1);
                     walk.takeSteps(trial, n);
                     int there = trial.atGoals();
                     if (best == NONE || there > lowerOf(best)) {
@@ -1200,9 +1199,9 @@ public final class MoodTown {
             } else if (tape.isName("wall")) {
                 takeWall();
             } else if (tape.isName("at")) {
-                takeOne(false);
+                takeOne(0);
             } else if (tape.isName("still")) {
-                takeOne(true);
+                takeOne(1);
             } else if (tape.isName("pull")) {
                 takePull();
             } else if (tape.isName("press")) {
@@ -1268,7 +1267,7 @@ public final class MoodTown {
             told.walls |= 1 << takeFreeCell();
         }
 
-        private void takeOne(boolean still) {
+        private void takeOne(int still) {
             if (told.people >= MOST_PEOPLE) {
                 refuse(CROWD_FAULT, tape.first);
                 return;
