@@ -358,19 +358,7 @@ public final class MoodTown {
         if (n < 1 || n > MOST_STEPS) {
             return BAD;
         }
-        if (town.people < 1) {
-            return STATE;
-        }
-        int s = seed;
-        int went = 0;
-        for (int i = 0; i < n; i++) {
-            s = s * 1103515245 + 12345;
-            int p = ((s >>> 16) & 0x7FFF) % town.people;
-            town.moods[p] = (town.moods[p] + 1) & LAST_MOOD;
-            walk.takeStep(town);
-            went += Integer.bitCount(walk.went);
-        }
-        return went;
+        return search.wentBySeed(town, seed, n);
     }
 
     // ---- images, sheets
@@ -1061,6 +1049,24 @@ public final class MoodTown {
                 }
             }
             return true;
+        }
+
+        /** How many times a ONE went, while a seed tells whose MOOD becomes 1 more ahead of each STEP. */
+        int wentBySeed(Town now, int seed, int n) {
+            if (now.people < 1) {
+                return STATE;
+            }
+            trial.copyFrom(now);
+            int s = seed;
+            int times = 0;
+            for (int i = 0; i < n; i++) {
+                s = s * 1103515245 + 12345;
+                int p = ((s >>> 16) & 0x7FFF) % now.people;
+                trial.moods[p] = (trial.moods[p] + 1) & LAST_MOOD;
+                walk.takeStep(trial);
+                times += Integer.bitCount(walk.went);
+            }
+            return times;
         }
     }
 

@@ -556,16 +556,17 @@ final class Model {
     int crowd(int seed, int n) {
         if (not(n, 1, 60)) return BAD;
         if (w.people.isEmpty()) return STATE;
+        World t = w.twin();
         int went = 0;
         BigInteger s = BigInteger.valueOf(seed);
         for (int i = 0; i < n; i++) {
             s = BigInteger.valueOf(s.multiply(BigInteger.valueOf(1103515245)).add(BigInteger.valueOf(12345)).intValue());
             int bits = 0;
             for (int b = 16; b <= 30; b++) if (s.testBit(b)) bits += 1 << (b - 16);
-            Person p = who(bits % w.people.size());
+            Person p = t.people.get(bits % t.people.size());
             p.mood = p.mood == 3 ? 0 : p.mood + 1;
-            int[] deeds = w.step();
-            for (int k = 0; k < w.people.size(); k++) if (deeds[k] != 4) went++;
+            int[] deeds = t.step();
+            for (int k = 0; k < t.people.size(); k++) if (deeds[k] != 4) went++;
         }
         return went;
     }

@@ -73,22 +73,40 @@ public final class SeenTest {
     private static void crowds() {
         MoodTown alone = CHECK.town("at 4 1;");
         due("crowd of one", alone.crowd(99, 6), 0);
-        due("his MOOD", alone.one(0, 1), 3);
-        due("STEP", alone.rule(5), 6);
-        due("of 3: 0", alone.crowd(1, 1) + 10 * alone.one(0, 1), 0);
-        // 12345 has no bits from 16 on: ONE 0 is meant
+        // 12345 has no bits from 16 on: ONE 0 is meant, and the two, of one MOOD until then, draw each other
         MoodTown two = CHECK.town("town 5 2;at 0 1;at 4 1;");
         due("crowd(0, 1)", two.crowd(0, 1), 2);
-        due("ONE 0", two.one(0, 0) * 10 + two.one(0, 1), 12);
-        due("ONE 1", two.one(1, 0) * 10 + two.one(1, 1), 31);
-        due("STEP of two", two.rule(5), 1);
+        due("crowd(0, 1) once more", two.crowd(0, 1), 2);
+        due("of 3: 0, whom nobody draws", CHECK.town("town 5 2;at 0 3;at 4 1;").crowd(0, 1), 0);
         bySeed("town 5 5;at 12 1;at 13 2;at 7 3;at 0 1;at 24 2;press 2;", 7, 60);
         bySeed("town 5 5;at 12 1;at 13 2;at 7 3;at 0 1;at 24 2;", Integer.MIN_VALUE, 60);
         bySeed("town 4 5;at 12 1;at 13 2;at 7 3;wall 3;", -1, 17);
         due("crowd(1, 0)", two.crowd(1, 0), MoodTown.BAD);
+        due("crowd(1, -1)", two.crowd(1, -1), MoodTown.BAD);
         due("crowd(1, 61)", two.crowd(1, 61), MoodTown.BAD);
         due("crowd of nobody", new MoodTown().crowd(1, 1), MoodTown.STATE);
         due("crowd of nobody, BAD", new MoodTown().crowd(1, 61), MoodTown.BAD);
+        crowdsByThemselves();
+    }
+
+    /** What a crowd does is done by itself: the town stays, and STEP does not hinder it. */
+    private static void crowdsByThemselves() {
+        MoodTown x = CHECK.town("town2 2;at0 1;at1 1;at2 2;pull5 0 0 0;");
+        due("nobody went", x.crowd(0, 1), 0);
+        due("MOOD is as it was", x.mood(0, 0), 1);
+        MoodTown late = CHECK.town("town 5 2;at 0 1;at 4 1;goal 0 0;");
+        late.keep(1);
+        late.see(1, 4);
+        for (int i = 0; i < 16; i++) late.go(60);
+        due("STEP 999", late.go(39), 1);
+        due("crowd at STEP 999", late.crowd(0, 1), 2);
+        due("STEP stays", late.rule(5), 999);
+        due("ONE 0 stays", late.one(0, 0) * 10 + late.one(0, 1), 1);
+        due("ONE 1 stays", late.one(1, 0) * 10 + late.one(1, 1), 41);
+        due("at his GOAL he stays", late.count(0), 1);
+        due("SEEN stays", late.count(2), 1);
+        due("IMAGES stay", late.count(3), 1);
+        due("go(0) behind it", late.go(0), 1);
     }
 
     /** The same by other calls: mood() and go() on a second object. */
@@ -107,10 +125,11 @@ public final class SeenTest {
             for (int q = 0; q < before.length; q++) if (before[q] != y.one(q, 0)) went++;
         }
         due(text + " crowd(" + seed + ", " + n + ")", x.crowd(seed, n), went);
-        for (int q = 0; q < y.rule(3); q++) {
-            due(text + " CELL " + q, x.one(q, 0), y.one(q, 0));
-            due(text + " MOOD " + q, x.one(q, 1), y.one(q, 1));
+        MoodTown fresh = CHECK.town(text);
+        for (int q = 0; q < fresh.rule(3); q++) {
+            due(text + " CELL " + q, x.one(q, 0), fresh.one(q, 0));
+            due(text + " MOOD " + q, x.one(q, 1), fresh.one(q, 1));
         }
-        due(text + " STEP", x.rule(5), n);
+        due(text + " STEP", x.rule(5), 0);
     }
 }
