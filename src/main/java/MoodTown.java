@@ -1073,6 +1073,7 @@ public final class MoodTown {
     /** THE TAPE, and the TOKEN that was read of it latest. */
     private static final class Tape {
         static final int NO_TOKEN = 0, NAME = 1, NUMBER = 2, STOP = 3, END = 4;
+        private static final int MOST_FIGURES = 2;
 
         final byte[] bytes;
         int length;
@@ -1103,40 +1104,38 @@ public final class MoodTown {
                 place++;
             }
             first = place;
-            if (place >= length) {
-                kind = END;
-            } else if (isLetter(bytes[place])) {
-                passName();
-            } else if (isFigure(bytes[place])) {
-                passNumber();
-            } else {
-                kind = bytes[place] == ';' ? STOP : NO_TOKEN;
+            kind = END;
+            if (place < length) {
+                kind = kindOf(bytes[place]);
                 place++;
+            }
+            while (place < length && (kind == NAME || kind == NUMBER) && kindOf(bytes[place]) == kind) {
+                place++;
+            }
+            if (kind == NUMBER) {
+                weighFigures();
             }
         }
 
-        private void passName() {
-            kind = NAME;
-            while (place < length && isLetter(bytes[place])) {
-                place++;
+        private static int kindOf(int c) {
+            if (c >= 'a' && c <= 'z') {
+                return NAME;
             }
+            if (c >= '0' && c <= '9') {
+                return NUMBER;
+            }
+            return c == ';' ? STOP : NO_TOKEN;
         }
 
-        private void passNumber() {
+        /** All figures are passed, so that what is too long is refused as one. */
+        private void weighFigures() {
             value = 0;
-            while (place < length && isFigure(bytes[place])) {
-                value = value * 10 + bytes[place] - '0';
-                place++;
+            for (int i = first; i < place; i++) {
+                value = value * 10 + bytes[i] - '0';
             }
-            kind = place - first > 2 ? NO_TOKEN : NUMBER;
-        }
-
-        private static boolean isLetter(int c) {
-            return c >= 'a' && c <= 'z';
-        }
-
-        private static boolean isFigure(int c) {
-            return c >= '0' && c <= '9';
+            if (place - first > MOST_FIGURES) {
+                kind = NO_TOKEN;
+            }
         }
 
         boolean isName(String name) {
@@ -1248,12 +1247,10 @@ public final class MoodTown {
             return tape.value;
         }
 
-        private int takeFreeCell() {
-            int c = takeNumber(0, LAST_CELL);
+        private void refuseTaken(int c) {
             if (fault == 0 && !told.isFree(c)) {
                 refuse(TWICE_FAULT, tape.first);
             }
-            return c;
         }
 
         private void refuseSecond(boolean before) {
@@ -1270,7 +1267,9 @@ public final class MoodTown {
         }
 
         private void takeWall() {
-            told.walls |= 1 << takeFreeCell();
+            int c = takeNumber(0, LAST_CELL);
+            refuseTaken(c);
+            told.walls |= 1 << c;
         }
 
         private void takeOne(int still) {
@@ -1278,7 +1277,8 @@ public final class MoodTown {
                 refuse(CROWD_FAULT, tape.first);
                 return;
             }
-            int c = takeFreeCell();
+            int c = takeNumber(0, LAST_CELL);
+            refuseTaken(c);
             int m = takeNumber(0, LAST_MOOD);
             told.addOne(c, m, still);
         }
