@@ -185,6 +185,7 @@ public final class BoundsSeenTest {
         for (int seed : new int[] {0, 1, -1, Integer.MIN_VALUE, Integer.MAX_VALUE}) {
             for (int n : new int[] {1, 2, 59, 60}) crowdOf(text, seed, n);
         }
+        for (int n : new int[] {1, 59, 60}) crowdOf("town 5 5;at 12 1;at 13 2;at 7 3;at 0 1;at 24 2;", 7, n);
         B.due("one alone", B.town("at 4 1;").crowd(1, 60), 0);
         B.due("STILL ones", B.town("still 4 1;still 5 2;").crowd(1, 60), 0);
     }

@@ -2,8 +2,8 @@ import java.util.Random;
 
 /** Many runs of calls by fixed seeds: the class and the model must answer alike, call by call. */
 public final class LikenessTest {
-    private static final int RUNS = 1500;
-    private static final int CALLS = 300;
+    private static final int RUNS = 2500;
+    private static final int CALLS = 160;
 
     private final Random random;
     private final MoodTown x = new MoodTown();
@@ -41,11 +41,11 @@ public final class LikenessTest {
 
     private int around(int low, int high) { return seldom() ? wild() : low + below(high - low + 1); }
 
-    private int anyOne() { return seldom() ? wild() : below(Math.max(1, x.rule(3))); }
+    private int anyOne() { return seldom() ? wild() : below(Math.max(1, y.rule(3))); }
 
-    private int anyCell() { return seldom() ? wild() : below(x.rule(0) * x.rule(1)); }
+    private int anyCell() { return seldom() ? wild() : below(y.rule(0) * y.rule(1)); }
 
-    private int totalOrOne() { return seldom() ? wild() : below(2) == 0 ? 0 : 10 + below(Math.max(1, x.rule(3))); }
+    private int totalOrOne() { return seldom() ? wild() : below(2) == 0 ? 0 : 10 + below(Math.max(1, y.rule(3))); }
 
     private boolean runs() {
         if (!feedText(true)) return false;
@@ -145,7 +145,7 @@ public final class LikenessTest {
                 return alike("nurse " + p + " " + a + " " + b + " " + w, x.nurse(p, a, b, w), y.nurse(p, a, b, w)); }
             case 26: { int m = around(1, 3); return alike("hang " + m + " " + few + " " + half, x.hang(m, few, half), y.hang(m, few, half)); }
             case 27: { int v = around(0, 10); return alike("odds " + v + " " + few + " " + half, x.odds(v, few, half), y.odds(v, few, half)); }
-            case 28: { int way = below(2) == 0 ? x.wish(p) : around(0, 4); return alike("see " + p + " " + way, x.see(p, way), y.see(p, way)); }
+            case 28: { int way = below(2) == 0 ? y.wish(p) : around(0, 4); return alike("see " + p + " " + way, x.see(p, way), y.see(p, way)); }
             case 29: { int k = around(0, 8); return alike("forget " + k, x.forget(k), y.forget(k)); }
             case 30: { int w = totalOrOne(); return alike("moods " + w, x.moods(w), y.moods(w)); }
             case 31: { int seed = random.nextInt(); return alike("crowd " + seed + " " + n, x.crowd(seed, n), y.crowd(seed, n)); }

@@ -123,7 +123,7 @@ public final class RulesTest {
         long before = machine.getThreadAllocatedBytes(id);
         long plain = machine.getThreadAllocatedBytes(id) - before;
         before = machine.getThreadAllocatedBytes(id);
-        for (int i = 0; i < 10; i++) everyCall(x);
+        for (int i = 0; i < 5; i++) everyCall(x);
         long made = machine.getThreadAllocatedBytes(id) - before - plain;
         holds("calls make nothing, but were " + made + " bytes", made < 1000);
         before = machine.getThreadAllocatedBytes(id);
