@@ -1,3 +1,6 @@
+import java.util.ArrayList;
+import java.util.List;
+
 /** Boundary cases of Terms 2 (FLIPS, AT REST) and of promises 20 to 23: STEPS, what is ahead, rest, what comes again. */
 public final class BoundsStepTest {
     private static final Bounds B = new Bounds("BoundsStepTest");
@@ -176,6 +179,23 @@ public final class BoundsStepTest {
         B.due("rest() changes nothing", x.rule(5), 62);
     }
 
+    /** CELLS and MOODS of all, each for itself, by ahead(): a sum of both alone would come again too soon. */
+    private static void againOf(String text, int first, int more) {
+        MoodTown x = B.town(text);
+        List<String> looks = new ArrayList<>();
+        int came = -1;
+        while (came < 0) {
+            StringBuilder look = new StringBuilder();
+            for (int p = 0; p < x.rule(3); p++) look.append(x.ahead(p, looks.size(), 0)).append(' ').append(x.ahead(p, looks.size(), 1)).append(';');
+            came = looks.indexOf(look.toString());
+            looks.add(look.toString());
+        }
+        B.due(text + " first, by ahead()", came, first);
+        B.due(text + " again, by ahead()", looks.size() - 1 - came, more);
+        B.due(text + " again(0)", x.again(0), first);
+        B.due(text + " again(1)", x.again(1), more);
+    }
+
     private static void again() {
         B.of("promise 23: CELLS and MOODS of all that come again");
         MoodTown nobody = new MoodTown();
@@ -187,6 +207,9 @@ public final class BoundsStepTest {
         MoodTown once = B.town("town 5 2;at 3 1;still 2 1;pull 1 0 0 0;");
         B.due("behind one STEP, first", once.again(0), 1);
         B.due("behind one STEP, again", once.again(1), 1);
+        againOf("town 5 2;at 0 3;at 4 1;press 1;", 2, 3);
+        againOf("town 2 3;at 5 1;at 0 2;wall 4;press 1;", 2, 3);
+        againOf("town 4 2;at 0 1;at 3 3;at 6 3;wall 4;wall 5;press 2;", 5, 1);
         B.of("promise 23: both together 60 at most. NONE: they do not");
         MoodTown x = B.town(LATE_REST);
         for (int what = 0; what < 2; what++) B.due("61 and 1", x.again(what), NONE);

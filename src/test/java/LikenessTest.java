@@ -3,12 +3,15 @@ import java.util.Random;
 /** Many runs of calls by fixed seeds: the class and the model must answer alike, call by call. */
 public final class LikenessTest {
     private static final int RUNS = 2500;
-    private static final int CALLS = 160;
+    private static final int CALLS = 200;
+    /** An object answers to 512 calls; a text more is some 170 of them. */
+    private static final int ENOUGH = 330;
 
     private final Random random;
     private final MoodTown x = new MoodTown();
     private final Model y = new Model();
     private final StringBuilder told = new StringBuilder();
+    private int asked;
 
     private LikenessTest(long seed) { random = new Random(seed); }
 
@@ -26,6 +29,7 @@ public final class LikenessTest {
     }
 
     private boolean alike(String call, long a, long b) {
+        asked++;
         told.append(call).append(" : ").append(a).append(a == b ? "" : ", due is " + b).append('\n');
         return a == b;
     }
@@ -49,7 +53,7 @@ public final class LikenessTest {
 
     private boolean runs() {
         if (!feedText(true)) return false;
-        for (int i = 0; i < CALLS; i++) {
+        for (int i = 0; i < CALLS && asked < ENOUGH; i++) {
             if (!call()) return false;
         }
         return true;
