@@ -42,6 +42,18 @@ public final class PlaceTest {
         due("the first is 0", quiet.setting(12, 10), 0);
         due("the other keeps his", quiet.setting(12, 11), 1);
         due("no GOALS", CHECK.town("at 0 1;at 1 1;").setting(12, 10), 1);
+        MoodTown alike = CHECK.town("town 5 2;at 1 3;at 2 1;goal 0 0;");
+        due("either takes the other's MOOD", alike.setting(1, 0), 1);
+        due("both 1 comes before both 3, 0", alike.setting(1, 10), 1);
+        due("both 1 comes before both 3, 1", alike.setting(1, 11), 1);
+        due("who was told before counts no more", fewer().setting(12, 0), 0);
+    }
+
+    /** A text of one ONE alone, behind a text of three. */
+    private static MoodTown fewer() {
+        MoodTown x = CHECK.town("at 0 1;at 2 2;at 4 3;");
+        due("a text of fewer", Check.tell(x, "at 0 1;"), 1);
+        return x;
     }
 
     private static void takenOut() {
@@ -151,6 +163,8 @@ public final class PlaceTest {
         odds(other, 0, 1, 1, 1);
         odds(other, 10, 1, 1, 1);
         odds(new MoodTown(), 5, 12, 1, 1);
+        odds(fewer(), 5, 12, 1, 1);
+        odds(CHECK.town("at 0 0;at 1 0;goal 1 1;"), 5, 12, 1, 1);
         MoodTown three = CHECK.town("town 5 5;still 0 3;still 4 1;at 12 1;still 14 1;at 24 1;goal 2 13;goal 4 24;pull 0 1 0 0;");
         odds(three, 1, 1, 9, 100);
         MoodTown unlike = CHECK.town("town 5 5;still 12 1;at 10 2;at 14 2;goal 1 11;goal 2 13;pull 0 1 0 0;");
